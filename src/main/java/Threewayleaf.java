@@ -640,8 +640,12 @@ public final class Threewayleaf {
         }
 
         boolean hasConflictsOf(State other, int node) {
-            for (int kind = 0; kind < CONFLICT_KINDS; kind++) {
-                if (conflictOf(node, kind) != other.conflictOf(node, kind)) {
+            if (node < 0 || node >= MAX_NODES) {
+                return true;
+            }
+            int start = node * CONFLICT_KINDS;
+            for (int i = start; i < start + CONFLICT_KINDS; i++) {
+                if (conflicts[i] != other.conflicts[i]) {
                     return false;
                 }
             }
@@ -689,37 +693,6 @@ public final class Threewayleaf {
         }
     }
 
-    /**
-     * The numbers of spots, or of words, in their order. A new number is the greatest one, so it
-     * comes right behind the one that it is behind. One order serves for all holders: that of the
-     * spots of one holder does not change when others stand between them.
-     */
-    private static final class Order {
-        private final int[] row;
-        private int size;
-
-        Order(int capacity) {
-            row = new int[Math.max(0, capacity)];
-        }
-
-        int at(int place) {
-            return place >= 0 && place < size ? row[place] : NONE;
-        }
-
-        void addBehind(int number, int ahead) {
-            if (size >= row.length) {
-                return;
-            }
-            int place = size;
-            while (place > 0 && row[place - 1] != ahead) {
-                row[place] = row[place - 1];
-                place--;
-            }
-            row[place] = number;
-            size++;
-        }
-    }
-
     /** The nodes, spots and words that were ever made, in whatever branch, and what never changes of them. */
     private static final class Stock {
         private int nodes = 1;
@@ -728,11 +701,11 @@ public final class Threewayleaf {
         private final int[] kinds = new int[MAX_NODES];
         private final int[] holders = new int[MAX_SPOTS];
         private final int[] owners = new int[MAX_SPOTS];
-        private final Order spotOrder = new Order(MAX_SPOTS);
+        private final int[] spotOrder = new int[MAX_SPOTS];
         private final int[] leaves = new int[MAX_WORDS];
         private final int[] senses = new int[MAX_WORDS];
         private final int[] writers = new int[MAX_WORDS];
-        private final Order wordOrder = new Order(MAX_WORDS);
+        private final int[] wordOrder = new int[MAX_WORDS];
 
         int nodeCount() {
             return nodes;
@@ -771,7 +744,7 @@ public final class Threewayleaf {
         }
 
         int spotInOrder(int place) {
-            return spotOrder.at(place);
+            return place >= 0 && place < spots && place < MAX_SPOTS ? spotOrder[place] : NONE;
         }
 
         int leafOf(int word) {
@@ -787,7 +760,24 @@ public final class Threewayleaf {
         }
 
         int wordInOrder(int place) {
-            return wordOrder.at(place);
+            return place >= 0 && place < words && place < MAX_WORDS ? wordOrder[place] : NONE;
+        }
+
+        /**
+         * Brings the next number into a row of those before it. It is the greatest one, so it comes
+         * right behind the one that it is behind. One row serves for all holders, or leaves: the
+         * order of what belongs to one of them stays the same when others stand in between.
+         */
+        private static void insertBehind(int[] row, int number, int ahead) {
+            if (number < 0 || number >= row.length) {
+                return;
+            }
+            int place = number;
+            while (place > 0 && row[place - 1] != ahead) {
+                row[place] = row[place - 1];
+                place--;
+            }
+            row[place] = number;
         }
 
         /** The number of the next node, which does not count before it is kept. */
@@ -817,7 +807,7 @@ public final class Threewayleaf {
 
         void keepSpot(int ahead) {
             if (spots < MAX_SPOTS) {
-                spotOrder.addBehind(spots, ahead);
+                insertBehind(spotOrder, spots, ahead);
                 spots++;
             }
         }
@@ -829,7 +819,7 @@ public final class Threewayleaf {
             leaves[words] = leaf;
             senses[words] = sense;
             writers[words] = writer;
-            wordOrder.addBehind(words, ahead);
+            insertBehind(wordOrder, words, ahead);
             words++;
             return words - 1;
         }
@@ -1594,6 +1584,8 @@ public final class Threewayleaf {
         void pair(State first, State second) {
             Arrays.fill(partners, NONE);
             partners[ROOT] = ROOT;
+            printer.fill(first, true, firstFaces);
+            printer.fill(second, true, secondFaces);
             pairByFace(first, second);
             // A holder has to be paired before its children are.
             for (int depth = 1; depth < MAX_NODES; depth++) {
@@ -1608,8 +1600,6 @@ public final class Threewayleaf {
         }
 
         private void pairByFace(State first, State second) {
-            printer.fill(first, true, firstFaces);
-            printer.fill(second, true, secondFaces);
             for (int node = 0; node < MAX_NODES; node++) {
                 isFirstFaced[node] = false;
                 isSecondFaced[node] = false;

@@ -1,0 +1,103 @@
+import java.util.NoSuchElementException;
+
+/** What the tests of the promises share: they tell what is due and count what is not so. */
+final class Check {
+    static final Class<?> INDEX = IndexOutOfBoundsException.class;
+    static final Class<?> ARGUMENT = IllegalArgumentException.class;
+    static final Class<?> STATE = IllegalStateException.class;
+    static final Class<?> ELEMENT = NoSuchElementException.class;
+
+    interface Call {
+        void run();
+    }
+
+    private static int wrong = 0;
+    private static int checked = 0;
+
+    private Check() {
+    }
+
+    static void due(String what, long got, long want) {
+        checked++;
+        if (got != want) {
+            wrong++;
+            System.out.println(what + ": answered " + got + ", due is " + want);
+        }
+    }
+
+    static void due(String what, boolean got, boolean want) {
+        due(what, got ? 1 : 0, want ? 1 : 0);
+    }
+
+    static void due(String what, String got, String want) {
+        checked++;
+        if (!got.equals(want)) {
+            wrong++;
+            System.out.println(what + ": answered " + got + ", due is " + want);
+        }
+    }
+
+    /** The very class is due, and the class under test has to have thrown it by its own hand. */
+    static void fails(String what, Class<?> want, Call call) {
+        checked++;
+        try {
+            call.run();
+        } catch (RuntimeException e) {
+            boolean byHand = e.getStackTrace().length > 0 && e.getStackTrace()[0].getClassName().startsWith("Threewayleaf");
+            if (e.getClass() == want && byHand) {
+                return;
+            }
+            wrong++;
+            System.out.println(what + ": threw " + e + ", due is " + want);
+            return;
+        }
+        wrong++;
+        System.out.println(what + ": threw nothing, due is " + want);
+    }
+
+    /** The children of a node in their order, with a comma behind each. */
+    static String childrenOf(Threewayleaf x, int view, int node) {
+        StringBuilder out = new StringBuilder();
+        for (int i = 0; i < x.children(view, node); i++) {
+            out.append(x.child(view, node, i)).append(',');
+        }
+        return out.toString();
+    }
+
+    /** The senses of the words of a node in their order, with a comma behind each. */
+    static String sensesOf(Threewayleaf x, int view, int node) {
+        StringBuilder out = new StringBuilder();
+        for (int i = 0; i < x.words(view, node); i++) {
+            out.append(x.word(view, node, i) / 10).append(',');
+        }
+        return out.toString();
+    }
+
+    /** The text of a script, char by char until there is none. */
+    static String scriptOf(Threewayleaf x, int view, int other) {
+        StringBuilder out = new StringBuilder();
+        try {
+            for (int at = 0; ; at++) {
+                out.append(x.scriptAt(view, other, at));
+            }
+        } catch (NoSuchElementException e) {
+            return out.toString();
+        }
+    }
+
+    /** A print, by the numbers that go into it. */
+    static long printOf(long... numbers) {
+        long p = 17;
+        for (long number : numbers) {
+            p = 31 * p + number;
+        }
+        return p;
+    }
+
+    static void end(String name) {
+        System.out.println(name + ": " + checked + " checks, " + wrong + " wrong");
+        if (wrong != 0) {
+            System.exit(1);
+        }
+    }
+}
