@@ -1018,10 +1018,13 @@ public final class Threewayleaf {
 
     /** The edits from a state to another one, in their order. */
     private static final class Script {
+        private static final int ADDED = 0, SPOT = 1, TAG = 2, AIM = 3, CONFLICTS = 4, SAID = 5, STRUCK = 6, REMOVED = 7;
+        private static final int EDIT_KINDS = 8;
+        /** The sign of each kind of edit, in the order of the kinds. */
         private static final String SIGNS = "+*#@?!~-";
         private static final int CAPACITY = 4 * MAX_NODES + MAX_WORDS;
 
-        private final char[] signs = new char[CAPACITY];
+        private final int[] kinds = new int[CAPACITY];
         private final int[] numbers = new int[CAPACITY];
         private int size;
 
@@ -1029,8 +1032,8 @@ public final class Threewayleaf {
             return size;
         }
 
-        char signOf(int edit) {
-            return edit >= 0 && edit < size ? signs[edit] : ' ';
+        int kindOf(int edit) {
+            return edit >= 0 && edit < size ? kinds[edit] : NONE;
         }
 
         int numberOf(int edit) {
@@ -1039,41 +1042,34 @@ public final class Threewayleaf {
 
         void tell(State from, State to) {
             size = 0;
-            for (int i = 0; i < SIGNS.length(); i++) {
-                char sign = SIGNS.charAt(i);
-                int limit = sign == '!' || sign == '~' ? MAX_WORDS : MAX_NODES;
+            for (int kind = 0; kind < EDIT_KINDS; kind++) {
+                int limit = kind == SAID || kind == STRUCK ? MAX_WORDS : MAX_NODES;
                 for (int number = 0; number < limit; number++) {
-                    if (isDue(sign, number, from, to)) {
-                        add(sign, number);
+                    if (isDue(kind, number, from, to) && size < CAPACITY) {
+                        kinds[size] = kind;
+                        numbers[size] = number;
+                        size++;
                     }
                 }
             }
         }
 
-        private void add(char sign, int number) {
-            if (size < CAPACITY) {
-                signs[size] = sign;
-                numbers[size] = number;
-                size++;
-            }
-        }
-
-        private static boolean isDue(char sign, int number, State from, State to) {
+        private static boolean isDue(int kind, int number, State from, State to) {
             boolean isInBoth = from.has(number) && to.has(number);
-            switch (sign) {
-                case '+':
+            switch (kind) {
+                case ADDED:
                     return !from.has(number) && to.has(number);
-                case '*':
+                case SPOT:
                     return isInBoth && from.spotOf(number) != to.spotOf(number);
-                case '#':
+                case TAG:
                     return isInBoth && from.tagOf(number) != to.tagOf(number);
-                case '@':
+                case AIM:
                     return isInBoth && from.valueOf(number, AIMED) != to.valueOf(number, AIMED);
-                case '?':
+                case CONFLICTS:
                     return isInBoth && !from.hasConflictsOf(to, number);
-                case '!':
+                case SAID:
                     return !from.says(number) && to.says(number);
-                case '~':
+                case STRUCK:
                     return from.says(number) && !to.says(number);
                 default:
                     return from.has(number) && !to.has(number);
@@ -1105,10 +1101,11 @@ public final class Threewayleaf {
         }
 
         private char editAt(int edit, int at) {
+            int kind = kindOf(edit);
             int number = numberOf(edit);
             int digitsBehind = digitsOf(number) - at;
             if (at == 0) {
-                return signOf(edit);
+                return kind >= 0 && kind < SIGNS.length() ? SIGNS.charAt(kind) : ' ';
             }
             if (digitsBehind < 0) {
                 return ';';
@@ -1161,31 +1158,33 @@ public final class Threewayleaf {
             out.copyFrom(x);
             for (int edit = 0; edit < script.count(); edit++) {
                 int number = script.numberOf(edit);
-                switch (script.signOf(edit)) {
-                    case '+':
+                switch (script.kindOf(edit)) {
+                    case Script.ADDED:
                         playAdded(number);
                         break;
-                    case '*':
+                    case Script.SPOT:
                         playValue(number, MOVED);
                         wake(look.holderIn(y, number));
                         break;
-                    case '#':
+                    case Script.TAG:
                         playValue(number, TAGGED);
                         break;
-                    case '@':
+                    case Script.AIM:
                         playValue(number, AIMED);
                         break;
-                    case '?':
+                    case Script.CONFLICTS:
                         playConflicts(number);
                         break;
-                    case '!':
+                    case Script.SAID:
                         playWord(number, true);
                         break;
-                    case '~':
+                    case Script.STRUCK:
                         playWord(number, false);
                         break;
-                    default:
+                    case Script.REMOVED:
                         playRemoved(number);
+                        break;
+                    default:
                         break;
                 }
             }
@@ -1455,7 +1454,7 @@ public final class Threewayleaf {
             return spares.get(number);
         }
 
-        static State baseOf(BaseFinder finder, int version, int other, int level) {
+        private static State baseOf(BaseFinder finder, int version, int other, int level) {
             History history = finder.history;
             long last = history.lastCommon(version, other);
             State base = history.stateOf(0);
