@@ -118,6 +118,8 @@ public final class ScriptPromisesTest {
         Check.due("wherever it is", x.match(-1, 2, -2), 7);
         Check.due("its holder is matched in turn", x.match(-1, 1, -2), 6);
         Check.due("so is the other one", x.match(-1, 4, -2), 9);
+        x.move(1, 8, 9, 0);
+        Check.due("aims are not looked at, wherever it is", x.match(-1, 3, -2), 8);
         Check.fails("no view", Check.INDEX, () -> x.match(1, 0, 0));
         Check.fails("no other", Check.INDEX, () -> x.match(0, 0, 1));
         Check.fails("no desk", Check.INDEX, () -> x.match(-3, 0, 0));
@@ -177,6 +179,12 @@ public final class ScriptPromisesTest {
         Check.due("a conflict", x.conflicts(-1), 1);
         Check.due("conflicts are not looked at", x.match(-1, 3, 2), 3);
         Check.due("nor those below", x.match(-1, 1, 2), 1);
+        x.fork(2);
+        x.move(2, 3, 2, 0);
+        Check.due("nor wherever it is", x.match(-1, 3, -3), 3);
+        x.move(2, 1, 2, 0);
+        x.move(2, 3, 1, 0);
+        Check.due("nor those below, wherever it is", x.match(-1, 1, -3), 1);
     }
 
     private static void promise39Likeness() {

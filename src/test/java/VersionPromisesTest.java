@@ -296,10 +296,15 @@ public final class VersionPromisesTest {
                     break;
             }
             x.commit(1);
+            Check.due("by script, way " + way, x.joinedByScript(2, 3), x.joined(2, 3));
+            Check.due("by script, from the other side, way " + way, x.joinedByScript(3, 2), x.joined(2, 3));
             x.merge(0, 3);
             int node = way == 2 ? 4 : way == 5 ? 2 : 3;
             Check.due("touched, way " + way, x.option(-1, node, GONE, 0), 0);
             Check.due("it alone, way " + way, x.conflicts(-1), 1);
+            if (node == 3) {
+                Check.due("its words are as where it was touched, way " + way, x.words(-1, 3), x.words(3, 3));
+            }
         }
     }
 

@@ -229,6 +229,8 @@ public final class ViewPromisesTest {
         Check.due("from the other side", x.joined(3, 2), x.print(4));
         Check.due("by script", x.joinedByScript(2, 3), x.print(4));
         Check.due("by script, from the other side", x.joinedByScript(3, 2), x.print(4));
+        Check.due("of two others", x.joined(0, 1), x.print(1));
+        Check.due("of two others by script", x.joinedByScript(0, 2), x.print(2));
         Check.due("with itself", x.joined(4, 4), x.print(4));
         Check.due("with an older one", x.joined(0, 4), x.print(4));
         Check.due("by script with an older one", x.joinedByScript(4, 1), x.print(4));
