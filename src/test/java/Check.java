@@ -55,6 +55,50 @@ final class Check {
         System.out.println(what + ": threw nothing, due is " + want);
     }
 
+    /** The same, and the call has to leave the object as it was: all that it tells is compared. */
+    static void refused(String what, Threewayleaf x, Class<?> want, Call call) {
+        String before = tellAll(x);
+        fails(what, want, call);
+        due(what + ": what the object tells then", tellAll(x), before);
+    }
+
+    /** All that an object tells of its versions, branches, nodes and words. */
+    static String tellAll(Threewayleaf x) {
+        StringBuilder out = new StringBuilder();
+        for (int node = 0; isKnown(x, node); node++) {
+            out.append(x.kind(node)).append(',');
+        }
+        for (int version = 0; version < x.versions(); version++) {
+            out.append("\nversion ").append(x.parent(version, 0)).append(' ').append(x.parent(version, 1));
+            out.append(tellView(x, version));
+        }
+        for (int branch = 0; isBranch(x, branch); branch++) {
+            out.append("\nbranch ").append(x.head(branch)).append(' ').append(x.isClean(branch));
+            out.append(tellView(x, -1 - branch)).append(' ').append(scriptOf(x, x.head(branch), -1 - branch));
+        }
+        return out.toString();
+    }
+
+    private static String tellView(Threewayleaf x, int view) {
+        return " " + x.print(view) + ' ' + x.conflicts(view) + ' ' + scriptOf(x, 0, view);
+    }
+
+    private static boolean isKnown(Threewayleaf x, int node) {
+        try {
+            return x.kind(node) >= 0;
+        } catch (IndexOutOfBoundsException e) {
+            return false;
+        }
+    }
+
+    private static boolean isBranch(Threewayleaf x, int branch) {
+        try {
+            return x.head(branch) >= 0;
+        } catch (IndexOutOfBoundsException e) {
+            return false;
+        }
+    }
+
     /** The children of a node in their order, with a comma behind each. */
     static String childrenOf(Threewayleaf x, int view, int node) {
         StringBuilder out = new StringBuilder();
