@@ -411,6 +411,26 @@ public final class CallBoundsTest {
         Check.due("the head as the parent", x.parent(7, 0) * 10 + x.parent(7, 1), 59);
     }
 
+    /** "over the first parent of the version": what a joined version changed is what came from its second parent. */
+    private static void pickAndRevertOfAJoinedVersion() {
+        Threewayleaf x = new Threewayleaf();
+        x.put(0, 0, 0, LEAF, 1);
+        x.put(0, 0, 1, LEAF, 2);
+        x.commit(0);
+        x.fork(1);
+        x.fork(1);
+        x.retag(0, 1, 7);
+        x.retag(1, 2, 8);
+        x.commit(0);
+        x.commit(1);
+        x.merge(0, 3);
+        Check.due("pick", x.pick(2, 4), 5);
+        Check.due("the second parent's change alone", x.tag(5, 1) * 10 + x.tag(5, 2), 18);
+        Check.due("revert", x.revert(0, 4), 6);
+        Check.due("the first parent's change alone", x.tag(6, 1) * 10 + x.tag(6, 2), 72);
+        Check.due("one parent", x.parent(6, 0) * 10 + x.parent(6, 1), 39);
+    }
+
     /** Promise 26: "NONE if there are not so many" */
     private static void childrenUpToTheLast() {
         Threewayleaf x = new Threewayleaf();
@@ -609,6 +629,7 @@ public final class CallBoundsTest {
         resetCountsEdits();
         mergeWithoutJoining();
         pickAndRevertOfTheHead();
+        pickAndRevertOfAJoinedVersion();
         childrenUpToTheLast();
         optionsOfBoth();
         charsUpToTheLast();

@@ -5,7 +5,7 @@
  */
 public final class JoiningBoundsTest {
     private static final int NONE = Threewayleaf.NONE;
-    private static final int LIST = Threewayleaf.LIST, SET = Threewayleaf.SET, LEAF = Threewayleaf.LEAF, LINK = Threewayleaf.LINK;
+    private static final int LIST = Threewayleaf.LIST, LEAF = Threewayleaf.LEAF, LINK = Threewayleaf.LINK;
     private static final int MOVED = Threewayleaf.MOVED, TAGGED = Threewayleaf.TAGGED, AIMED = Threewayleaf.AIMED, GONE = Threewayleaf.GONE, RING = Threewayleaf.RING;
 
     /** The nodes of ready(). */
@@ -223,6 +223,41 @@ public final class JoiningBoundsTest {
             Check.due("it stays if none settled it, way " + way, x.conflicts(-1), way == 0 ? 1 : 0);
             Check.due("the tag is the same, way " + way, x.tag(-1, NOTE), 7);
         }
+    }
+
+    /** Of each kind: settled by one side, so that nothing else changes, it is settled; all others stay. */
+    private static void eachKindCanBeSettledByOneSide() {
+        for (int kind = MOVED; kind <= RING; kind++) {
+            for (int branch = 0; branch < 2; branch++) {
+                Threewayleaf x = ofEachKind();
+                int node = kind <= AIMED ? ARROW : kind == GONE ? NOTE : LEFT;
+                x.settle(branch, node, kind, kind == GONE ? 1 : 0);
+                x.retag(1 - branch, OTHER, 6);
+                commitAndJoin(x);
+                dueNone("settled, kind " + kind, x, node, kind);
+                Check.due("the others stay, kind " + kind, x.conflicts(-1), 5);
+                Check.due("settled alone, kind " + kind, Check.scriptOf(x, 4, -1), "#5;?" + node + ";");
+            }
+        }
+    }
+
+    /** In the version 4, where both branches stand, ARROW has MOVED, TAGGED and AIMED, NOTE has GONE, LEFT and RIGHT have RING. */
+    private static Threewayleaf ofEachKind() {
+        Threewayleaf x = ready();
+        x.move(0, ARROW, RIGHT, 0);
+        x.move(1, ARROW, 0, 0);
+        x.retag(0, ARROW, 7);
+        x.retag(1, ARROW, 8);
+        x.aim(0, ARROW, LEFT);
+        x.aim(1, ARROW, RIGHT);
+        x.remove(0, NOTE);
+        x.retag(1, NOTE, 9);
+        x.move(0, LEFT, RIGHT, 0);
+        x.move(1, RIGHT, LEFT, 0);
+        commitAndJoin(x);
+        x.merge(1, 4);
+        Check.due("one of each kind, and a second RING", x.conflicts(-2), 6);
+        return x;
     }
 
     private static void bothSettledItInTheirWay() {
@@ -522,6 +557,29 @@ public final class JoiningBoundsTest {
         Check.due("an aim does not touch what it aims at", y.against(2, 3), 2);
     }
 
+    /** A child that is changed where it is, or gets a child itself, does not touch its holder. */
+    private static void aChildInTheSameSpotDoesNotTouchItsHolder() {
+        for (int branch = 0; branch < 2; branch++) {
+            Threewayleaf x = ready();
+            x.put(0, LEFT, 2, LIST, 6);
+            x.commit(0);
+            x.merge(1, 2);
+            x.retag(branch, NOTE, 9);
+            x.write(branch, NOTE, 0, 60);
+            x.aim(branch, ARROW, RIGHT);
+            x.put(branch, 6, 0, LEAF, 0);
+            for (int child : new int[] {NOTE, ARROW, 6}) {
+                x.move(1 - branch, child, 0, 0);
+            }
+            x.remove(1 - branch, LEFT);
+            commitAndJoin(x);
+            Check.due("it is not there", Check.childrenOf(x, -1, 0), "6,4,3,2,");
+            Check.due("its children are as they were changed", x.tag(-1, NOTE) * 10 + x.aimOf(-1, ARROW), 92);
+            Check.due("with their own", Check.childrenOf(x, -1, 6), "7,");
+            Check.due("without a conflict", x.conflicts(-1), 0);
+        }
+    }
+
     private static void bothRemovedIt() {
         Threewayleaf x = ready();
         x.remove(0, NOTE);
@@ -560,6 +618,29 @@ public final class JoiningBoundsTest {
             Check.due("as where it was put", Check.childrenOf(x, -1, LEFT), "6,3,4,");
             Check.due("three of them", x.conflicts(-1), 3);
             dueOptions("a ring", x, list, RING, 0, 0);
+        }
+    }
+
+    /** The ring goes through a node that one side removed: it is there in B, so this spot is due, and it is gone, too. */
+    private static void aRingThroughWhatIsGone() {
+        for (int branch = 0; branch < 2; branch++) {
+            Threewayleaf x = new Threewayleaf();
+            x.put(0, 0, 0, LIST, 1);
+            x.put(0, 0, 1, LIST, 2);
+            x.put(0, 0, 2, LIST, 3);
+            x.commit(0);
+            x.fork(1);
+            x.move(branch, 1, 2, 0);
+            x.move(branch, 2, 3, 0);
+            x.move(1 - branch, 3, 1, 0);
+            x.remove(1 - branch, 2);
+            commitAndJoin(x);
+            Check.due("all as in the base", Check.childrenOf(x, -1, 0), "1,2,3,");
+            for (int node = 1; node <= 3; node++) {
+                dueOptions("a ring", x, node, RING, 0, 0);
+            }
+            dueOptions("gone", x, 2, GONE, 0, 0);
+            Check.due("four of them", x.conflicts(-1), 4);
         }
     }
 
@@ -768,6 +849,75 @@ public final class JoiningBoundsTest {
         Check.due("one alone", x.conflicts(-1), 1);
     }
 
+    /** "and so on": four bases, of which two have two bases each with the lowest one. */
+    private static void fourBases() {
+        Threewayleaf x = ready();
+        x.retag(0, NOTE, 7);
+        x.retag(1, OTHER, 7);
+        x.commit(0);
+        x.commit(1);
+        x.merge(0, 3);
+        x.merge(1, 2);
+        x.fork(4);
+        x.fork(5);
+        x.retag(0, NOTE, 3);
+        x.retag(2, RIGHT, 8);
+        x.retag(1, OTHER, 5);
+        x.retag(3, LEFT, 9);
+        for (int branch : new int[] {0, 2, 1, 3}) {
+            x.commit(branch);
+        }
+        for (int version : new int[] {7, 8, 9}) {
+            x.merge(0, version);
+        }
+        for (int version : new int[] {6, 7, 9}) {
+            x.merge(1, version);
+        }
+        Check.due("four bases", x.bases(12, 15), 4);
+        Check.due("two of 6 and 8, two of 6 and 9, one of 6 and 7", x.bases(6, 8) * 100 + x.bases(6, 9) * 10 + x.bases(6, 7), 221);
+        for (int node = LEFT; node <= OTHER; node++) {
+            x.retag(0, node, 1);
+        }
+        x.write(1, OTHER, 0, 60);
+        x.commit(0);
+        x.commit(1);
+        join(x, 0, 1);
+        Check.due("changed by one alone: nothing is at odds", x.conflicts(-1), 0);
+        for (int node = LEFT; node <= OTHER; node++) {
+            Check.due("the tag of the one that changed it", x.tag(-1, node), 1);
+        }
+    }
+
+    /** Histories can cross in each version that there is. */
+    private static void crossingUpToTheLastVersion() {
+        Threewayleaf x = ready();
+        x.retag(0, NOTE, 7);
+        x.retag(1, NOTE, 8);
+        x.commit(0);
+        x.commit(1);
+        for (int version = 4; version < 38; version += 2) {
+            Check.due("the one way", x.merge(0, version - 1), version);
+            Check.due("the other way", x.merge(1, version - 2), version + 1);
+            Check.due("the same", x.edits(version, version + 1), 0);
+            Check.due("two bases then", x.bases(version, version + 1), 2);
+        }
+        x.settle(0, NOTE, TAGGED, 1);
+        x.strike(1, NOTE, 0);
+        joinTheLastTwo(x);
+        Check.due("40 versions", x.versions(), 40);
+    }
+
+    private static void joinTheLastTwo(Threewayleaf x) {
+        x.commit(0);
+        x.commit(1);
+        Check.due("from both sides", x.joined(38, 39), x.joined(39, 38));
+        Check.due("by script", x.joinedByScript(38, 39), x.joined(39, 38));
+        long note = Check.printOf(2, 8, 0, 0, 0, 0, 0, 0);
+        long left = Check.printOf(0, 1, 0, note, Check.printOf(3, 4, 0, 0, 0, 0, 0, 0), 0, 0, 0, 0, 0);
+        long right = Check.printOf(0, 2, 0, Check.printOf(2, 5, 0, 0, 0, 0, 0, 0), 0, 0, 0, 0, 0);
+        Check.due("what both did", x.joined(38, 39), Check.printOf(0, 0, 0, left, right, 0, 0, 0, 0, 0));
+    }
+
     /** Pick and revert join over the first parent and over the version, whatever the last common ones are. */
     private static void pickAndRevertHaveTheirOwnBase() {
         Threewayleaf x = ready();
@@ -792,6 +942,7 @@ public final class JoiningBoundsTest {
         notThereInTheBase();
         conflictsOfANodeThatIsNotThereInTheBase();
         conflictsAreTakenFromTheThree();
+        eachKindCanBeSettledByOneSide();
         bothSettledItInTheirWay();
         aNewConflictTakesThePlaceOfTheOldOne();
         otherKindsStay();
@@ -808,9 +959,11 @@ public final class JoiningBoundsTest {
         aNewChildTouchesItsHolder();
         aChildInAnotherSpotTouchesItsHolder();
         whatDoesNotTouchANode();
+        aChildInTheSameSpotDoesNotTouchItsHolder();
         bothRemovedIt();
         aRingOfTwo();
         aRingThroughANewNode();
+        aRingThroughWhatIsGone();
         aRingOfNodesThatAreNotThereInTheBase();
         twoRingsAtOnce();
         holdersComeBackUpToTheFirstThatIsThere();
@@ -820,6 +973,8 @@ public final class JoiningBoundsTest {
         howManyLastOnes();
         basesOfBases();
         threeBases();
+        fourBases();
+        crossingUpToTheLastVersion();
         pickAndRevertHaveTheirOwnBase();
         Check.end("joining, at its bounds");
     }

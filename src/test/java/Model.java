@@ -697,7 +697,9 @@ public final class Model {
     public int child(int view, int node, int place) {
         State s = view(view);
         here(s, node);
-        checked(place, Integer.MAX_VALUE);
+        if (place < 0) {
+            throw new IndexOutOfBoundsException();
+        }
         List<Integer> children = childrenOf(s, node);
         return place < children.size() ? children.get(place) : -1;
     }
