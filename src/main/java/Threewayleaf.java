@@ -1451,7 +1451,7 @@ public final class Threewayleaf {
             for (int i = spares.size(); i <= number; i++) {
                 spares.add(new State());
             }
-            return spares.get(number);
+            return number >= 0 && number < spares.size() ? spares.get(number) : new State();
         }
 
         private static State baseOf(BaseFinder finder, int version, int other, int level) {

@@ -15,11 +15,15 @@ public final class ModelRunsTest {
 
     private static final int[] EXTREMES = {Integer.MIN_VALUE, Integer.MIN_VALUE + 1, -41, -6, -5, -2, -1, 0, 4, 5, 9, 10, 39, 40, 99, 100, 119, 120, Integer.MAX_VALUE - 1, Integer.MAX_VALUE};
 
+    private static final int NARROW_RUNS = 20;
+
     private final Map<String, Method> calls = new HashMap<>();
     private final Map<String, Method> modelCalls = new HashMap<>();
     private long seed;
     private final List<String> log = new ArrayList<>();
     private final int[] answers = new int[2];
+    /** One disagreement is told, with all calls up to it, and ends all runs. */
+    private boolean hasDisagreed;
 
     private ModelRunsTest() {
         for (Method m : Threewayleaf.class.getDeclaredMethods()) {
@@ -196,12 +200,16 @@ public final class ModelRunsTest {
     }
 
     private boolean agree(String name, Object x, Model m, int[] args) {
+        if (hasDisagreed) {
+            return false;
+        }
         Object[] boxed = Arrays.stream(args).boxed().toArray();
         Object got = answer(calls.get(name), x, boxed);
         Object due = answer(modelCalls.get(name), m, boxed);
         log.add(name + Arrays.toString(args) + " -> " + got);
         answers[due.toString().startsWith("java") ? 1 : 0]++;
         if (!got.equals(due)) {
+            hasDisagreed = true;
             System.out.println("disagreed after " + log.size() + " calls, due is " + due);
             log.forEach(System.out::println);
             return false;
@@ -242,6 +250,81 @@ public final class ModelRunsTest {
                 : r < 75 ? "commit" : r < 90 ? "merge" : r < 94 ? of("pick", "revert", "reset") : of(ASKED);
     }
 
+    private int[] narrowArguments(String call, int b, Model m) {
+        Model.State desk = m.desks.get(b);
+        List<Integer> there = new ArrayList<>(desk.nodes.keySet());
+        int parent = there.get(below(there.size()));
+        switch (call) {
+            case "put":
+                return new int[] {b, parent, 0, 0, below(10)};
+            case "move":
+                return new int[] {b, there.get(below(there.size())), parent, 0};
+            case "remove":
+                there.removeIf(n -> n > 2 || !m.childrenOf(desk, n).isEmpty());
+                return new int[] {b, there.isEmpty() ? 0 : there.get(there.size() - 1)};
+            case "merge":
+                return new int[] {b, m.heads.get(below(m.heads.size()))};
+            default:
+                return new int[] {b};
+        }
+    }
+
+    private boolean narrowAgrees(String name, int b, Object x, Model m) {
+        return agree(name, x, m, narrowArguments(name, b, m));
+    }
+
+    /**
+     * A short run in which a handful of LISTs is moved about in two or three branches by turns, and those
+     * that are left without children are removed: so rings, what goes round once they are untied, and
+     * holders that come back from the base are met more often than once in a thousand runs.
+     */
+    private boolean narrowRunAgrees(long number, int[] seen) {
+        seed = number * 0x9E3779B97F4A7C15L + 54321;
+        log.clear();
+        Object x = new Threewayleaf();
+        Model m = new Model();
+        boolean isGood = true;
+        for (int i = 3 + below(2); i > 0; i--) {
+            isGood &= narrowAgrees("put", 0, x, m);
+        }
+        isGood &= narrowAgrees("commit", 0, x, m);
+        for (int i = 1 + below(5) / 4; i > 0; i--) {
+            isGood &= agree("fork", x, m, new int[] {1});
+        }
+        for (int stage = 0; stage < 3 && isGood; stage++) {
+            for (int i = 3 + below(7); i > 0; i--) {
+                isGood &= narrowAgrees(below(14) == 0 ? "put" : "move", below(m.heads.size()), x, m);
+            }
+            for (int b = 0; b < m.heads.size(); b++) {
+                isGood &= (below(3) == 0 || narrowAgrees("remove", b, x, m)) && narrowAgrees("commit", b, x, m);
+            }
+            isGood &= agreeOnHeads(x, m);
+            for (int i = below(4); i > 0; i--) {
+                isGood &= narrowAgrees("merge", below(m.heads.size()), x, m);
+            }
+        }
+        addSeen(m, seen);
+        return isGood;
+    }
+
+    private boolean agreeOnHeads(Object x, Model m) {
+        boolean isGood = true;
+        for (int v : m.heads) {
+            for (int w : m.heads) {
+                for (String name : List.of("joined", "joinedByScript", "against", "edits")) {
+                    isGood &= agree(name, x, m, new int[] {v, w});
+                }
+            }
+        }
+        return isGood;
+    }
+
+    private static void addSeen(Model m, int[] seen) {
+        for (int i = 0; i < seen.length; i++) {
+            seen[i] += m.seen[i];
+        }
+    }
+
     private boolean runAgrees(long number, int[] seen) {
         seed = number * 0x9E3779B97F4A7C15L + 12345;
         log.clear();
@@ -259,10 +342,17 @@ public final class ModelRunsTest {
             }
         }
         boolean isGood = agreeOnAll(x, m);
-        for (int i = 0; i < seen.length; i++) {
-            seen[i] += m.seen[i];
-        }
+        addSeen(m, seen);
         return isGood;
+    }
+
+    private boolean allRunsAgree(long number, int[] seen) {
+        for (int i = 0; i < NARROW_RUNS; i++) {
+            if (!narrowRunAgrees(number * NARROW_RUNS + i, seen)) {
+                return false;
+            }
+        }
+        return runAgrees(number, seen);
     }
 
     public static void main(String[] args) {
@@ -271,7 +361,7 @@ public final class ModelRunsTest {
         ModelRunsTest test = new ModelRunsTest();
         int[] seen = new int[8];
         for (int i = 0; i < runs; i++) {
-            if (!test.runAgrees(start + i, seen)) {
+            if (!test.allRunsAgree(start + i, seen)) {
                 System.out.println("run " + (start + i));
                 System.exit(1);
             }
